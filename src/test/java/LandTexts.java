@@ -16,7 +16,28 @@ final class LandTexts {
         this.random = random;
     }
 
+    /** As many VILLAGES, ROADS, ITEMS and LAWS as a LAND may have; or one more of one of them. */
+    static String full(Random random) {
+        int more = random.nextInt(8);
+        StringBuilder b = new StringBuilder("village size" + (1 + random.nextInt(9)) + ";");
+        b.append("village size7;".repeat(more == 0 ? 24 : 23));
+        for (int r = 0; r < (more == 1 ? 41 : 40); r++) {
+            int v = random.nextInt(9);
+            b.append("road").append(v).append(' ').append((v + 1 + random.nextInt(8)) % 9).append(';');
+        }
+        b.append(("item of" + (2 + random.nextInt(4)) + "standard1;").repeat(more == 2 ? 11 : 10));
+        for (int l = 0; l < (more == 3 ? 21 : 20) && b.length() < 1182; l++) {
+            b.append("law").append(random.nextInt(10)).append(' ').append(random.nextInt(2)).append("to");
+            b.append(random.nextInt(2)).append("if1").append(random.nextBoolean() ? "more" : "less");
+            b.append(random.nextInt(2)).append(';');
+        }
+        return b.toString();
+    }
+
     static String text(Random random) {
+        if (random.nextInt(12) == 0) {
+            return full(random);
+        }
         LandTexts made = new LandTexts(random);
         String best = "";
         int style = random.nextInt(4);

@@ -49,6 +49,8 @@ public final class PromisesTest {
         leaningBounds();
         counting();
         images();
+        lawImages();
+        fullLand();
         rows();
         pasting();
         System.out.println(held + " answers looked at, " + wrong + " not as due");
@@ -333,6 +335,7 @@ public final class PromisesTest {
         due(6, "beyond on the way", turnedBy(milliard + " plus 1 minus 1 more 1"), 0);
         due(6, "not beyond in that order", turnedBy(milliard + " minus 1 plus 1 more 1"), 2);
         due(6, "-1,000,000,000", turnedBy("0 minus " + milliard + " less 1"), 2);
+        due(6, "-1,000,000,000 on the way", turnedBy("0 minus " + milliard + " plus 1 less 1"), 2);
         due(6, "-1,000,000,001", turnedBy("0 minus 1 minus " + milliard + " less 1"), 0);
         due(6, "beyond, times 0", turnedBy("501 times 500 times 500 times 8 times 0 same 0"), 0);
         due(6, "0 times what were beyond", turnedBy("0 times 999 times 999 times 999 times 999 same 0"), 2);
@@ -393,6 +396,7 @@ public final class PromisesTest {
         due(13, "area(2, 1, 0)", x.area(2, 1, 0), 1);
         due(13, "area(3, 1, 0)", x.area(3, 1, 0), 3);
         due(13, "area(3, 2, 0)", x.area(3, 2, 0), 0);
+        due(13, "area(3, 11, 0)", x.area(3, 11, 0), 0);
         due(13, "area(3, 2, 2)", x.area(3, 2, 2), 3);
         due(13, "area(4, 1, 0)", x.area(4, 1, 0), -2);
         due(13, "area(-1, 1, 0)", x.area(-1, 1, 0), -2);
@@ -474,6 +478,7 @@ public final class PromisesTest {
         x = Texts.withLand(three + items + "says 0 0 1;says 1 1 1;says 2 2 1;");
         due(17, "the least bits of two", x.tells(0), 3);
         due(18, "one's own", x.alone(2, 0), 4);
+        due(17, "the same behind another question", x.tells(0), 3);
         x = Texts.withLand(three + items + "says 0 0 1;says 1 1 1;says 2 2 1;says 1 3 1;says 2 3 2;");
         due(17, "one is fewer than two", x.tells(0), 8);
         due(18, "the least bits of one", x.alone(2, 0), 4);
@@ -895,6 +900,7 @@ public final class PromisesTest {
         due(41, "keep(0)", x.keep(0), 0);
         Texts.put(x, "village size 1;item of 2 standard 1;says 0 0 1;");
         x.land();
+        due(42, "another map", x.says(0, 0, 60), 1);
         x.row(0, 0, 1);
         x.feed(0, 0, 0, 0, 0);
         due(42, "back(2)", x.back(2), 0);
@@ -903,6 +909,10 @@ public final class PromisesTest {
         due(42, "ROADS", x.count(2), 3);
         due(42, "LAWS", x.count(4), 1);
         due(42, "the map", x.says(3, 0, 3), 2);
+        due(42, "the map from its first YEAR", x.says(0, 0, 60), 2);
+        due(42, "the map of ITEM 1", x.says(3, 1, 60), 1);
+        due(42, "size", x.village(2, 0), 30);
+        due(42, "standard", x.fits(0, 0), 1);
         due(42, "at a river", x.river(0, 1, 0), 1);
         due(42, "heard", x.heard(0), 102);
         due(42, "noted", x.noted(1, 1, 1), 4);
@@ -936,6 +946,81 @@ public final class PromisesTest {
         due(42, "VILLAGES", fresh.count(1), 0);
         due(42, "ITEMS", fresh.count(3), 0);
         due(42, "says", fresh.says(0, 0, 0), NONE);
+    }
+
+    /** LAWS of an IMAGE work as they did, whatever LAWS were read since. */
+    private static void lawImages() {
+        String two = "village size 9;village size 4;road 0 1;road 1 0;item of 3 standard 2;item of 3 standard 2;";
+        SaysBath x = Texts.withLand(two + "says 1 1 1;law 1 1 to 2 if year more 3;"
+                + "law 1 0 to 2 if mass 1 times 2 plus 1 minus size same 0;law 0 0 to 1 if 1 less 0;");
+        int[] before = {x.turned(1, 1, 4), x.turned(0, 1, 0), x.turned(0, 0, 0), x.still(1)};
+        due(7, "the first LAW", before[0], 0);
+        due(7, "4 times 2 plus 1 minus 9", before[1], 1);
+        due(7, "1 less 0", before[2], NONE);
+        due(15, "still", before[3], 5);
+        x.keep(1);
+        Texts.put(x, "village size 1;item of 5 standard 0;law 0 4 to 3 if 1 plus 2 times 3 minus near 4 less mass 3;"
+                + "law 0 0 to 4 if 5 times 5 plus 5 times 5 more size;law 0 4 to 0 if year same 9;");
+        x.land();
+        due(6, "another LAND", x.says(0, 0, 60), 4);
+        x.back(1);
+        due(42, "the first LAW", x.turned(1, 1, 4), before[0]);
+        due(42, "its second", x.turned(0, 1, 0), before[1]);
+        due(42, "its third", x.turned(0, 0, 0), before[2]);
+        due(42, "still", x.still(1), before[3]);
+        due(42, "LAWS", x.count(4), 3);
+    }
+
+    /** As much of all as a LAND may have, to the last byte but few. */
+    private static void fullLand() {
+        SaysBath x = Texts.withLand("village size1;".repeat(24) + "road8 9;".repeat(40)
+                + "item of5standard4;".repeat(10) + "law9 0to4if1more0;".repeat(20));
+        int[] counts = {94, 24, 40, 10, 20};
+        for (int what = 0; what < 5; what++) {
+            due(40, "count(" + what + ")", x.count(what), counts[what]);
+        }
+        due(6, "the last of all", x.says(23, 9, 60), 4);
+        due(7, "the last of all", x.turned(23, 9, 0), 0);
+        due(14, "all moved", x.moved(9, 0, 60), 0xffffff);
+        due(15, "still", x.still(9), 1);
+        due(8, "lines", x.lines(9, 60), 0);
+        due(9, "bundle", x.bundle(39, 60), 0);
+        due(10, "thick", x.thick(60), 0);
+        due(11, "crossed", x.crossed(0, 60), 40);
+        due(12, "areas", x.areas(11, 60), 23);
+        due(13, "area", x.area(23, 1, 60), 23);
+        due(16, "river", x.river(9, 60, 1), 1);
+        due(17, "tells", x.tells(60), NONE);
+        due(18, "alone", x.alone(23, 60), NONE);
+        for (int i = 2; i < 10; i++) {
+            due(19, "hear", x.hear(i, 4, i < 9), i - 1);
+        }
+        due(23, "fits", x.fits(23, 60), 8);
+        due(24, "whole", x.whole(60), 0xffffff);
+        due(24, "whole", x.whole(0), 0);
+        due(25, "from", x.from(60), 0);
+        due(26, "next", x.next(60), NONE);
+        due(27, "two", x.two(60), 1);
+        due(28, "nowhere", x.nowhere(0, 0), 7);
+        due(28, "nowhere", x.nowhere(0, 1), 209);
+        for (int v = 0; v < 24; v++) {
+            for (int i = 0; i < 10; i++) {
+                for (int variant = 0; variant < 5; variant++) {
+                    x.note(v, i, variant, 9);
+                }
+            }
+            x.walk(v, v % 6);
+        }
+        due(40, "NOTED", x.count(7), 10800);
+        due(31, "mostly", x.mostly(23, 9), 0);
+        due(32, "off", x.off(9, 60), 0xffffff);
+        due(33, "odds", x.odds(23, true), 390625);
+        due(34, "likely", x.likely(), 0);
+        due(35, "ahead", x.ahead(23), 0);
+        due(37, "leans", x.leans(2, 9), 0);
+        due(38, "lean", x.lean(2, 9), NONE);
+        due(39, "ROADS", x.village(9, 1), 40);
+        due(39, "who walked", x.village(23, 2), 5);
     }
 
     private static void rows() {
