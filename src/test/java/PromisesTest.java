@@ -1004,16 +1004,18 @@ public final class PromisesTest {
         due(28, "nowhere", x.nowhere(0, 0), 7);
         due(28, "nowhere", x.nowhere(0, 1), 209);
         for (int v = 0; v < 24; v++) {
-            for (int i = 0; i < 10; i++) {
+            x.walk(v, v % 6);
+        }
+        for (int v : new int[] {8, 9, 23}) {
+            for (int i = 2; i < 10; i++) {
                 for (int variant = 0; variant < 5; variant++) {
                     x.note(v, i, variant, 9);
                 }
             }
-            x.walk(v, v % 6);
         }
-        due(40, "NOTED", x.count(7), 10800);
+        due(40, "NOTED", x.count(7), 1080);
         due(31, "mostly", x.mostly(23, 9), 0);
-        due(32, "off", x.off(9, 60), 0xffffff);
+        due(32, "off", x.off(9, 60), 0x800300);
         due(33, "odds", x.odds(23, true), 390625);
         due(34, "likely", x.likely(), 0);
         due(35, "ahead", x.ahead(23), 0);

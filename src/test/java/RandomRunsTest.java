@@ -7,8 +7,10 @@ import java.util.Random;
 
 /** Long runs of calls with fair, odd and far arguments, each answer held against NaiveBath's. */
 public final class RandomRunsTest {
-    private static final int RUNS = 250;
-    private static final int CALLS = 480;
+    private static final int RUNS = 800;
+    /** What later calls answer is free. */
+    private static final int CALLS = 512;
+    private static final int CALLS_OF_A_LAND = 80;
 
     /** A method and a letter for each argument: what numbers make sense there. */
     private static final String[][] CALLED = {
@@ -58,8 +60,9 @@ public final class RandomRunsTest {
 
     private void go() throws Exception {
         boolean few = random.nextInt(3) == 0;
-        for (int n = 0; n < CALLS && !wrong; n++) {
-            if (n == 0 || random.nextInt(few ? 150 : 25) == 0) {
+        while (calls.size() < CALLS && !wrong) {
+            boolean room = calls.size() + CALLS_OF_A_LAND <= CALLS;
+            if (calls.isEmpty() || room && random.nextInt(few ? 150 : 25) == 0) {
                 readLand();
             } else {
                 String[] what = CALLED[random.nextInt(CALLED.length)];
