@@ -161,6 +161,15 @@ final class LandBounds {
         doc.due("no ROAD of the other", x.bundle(0, 0), -2);
         doc.due("land() of nothing", x.land(), 0);
         doc.due("ITEMS", x.count(3), 0);
+        x = Texts.withLand(VILLAGE + "item of 3 standard 0;law 0 0 to 1 if year same 4;law 0 1 to 2 if year same 40;");
+        doc.due("still(0)", x.still(0), 41);
+        Texts.put(x, VILLAGE + "item of 3 standard 0;law 0 0 to 1 if year same 4;");
+        x.land();
+        doc.due("still(0) of the second LAND", x.still(0), 5);
+        Texts.put(x, VILLAGE + "item of 3 standard 0;");
+        x.land();
+        doc.due("still(0) of the third, without LAWS", x.still(0), 0);
+        doc.due("turned(0, 0, 4) of the third", x.turned(0, 0, 4), NONE);
         good(" ".repeat(1185) + VILLAGE, 1);
         bad(1, " ".repeat(1186) + "village size 1", "");
 
@@ -180,6 +189,19 @@ final class LandBounds {
         doc.due("heard(0)", x.heard(0), NONE);
         doc.due("heard(1)", x.heard(1), NONE);
         doc.due("SLOTS", x.count(8), 3);
+        SaysBath full = Texts.withLand(Busy.FULL);
+        for (int end = 0; end < 2; end++) {
+            full.note(23 * end, 9 * end, 4 * end, 9);
+            full.hear(9 * end, 4 * end, true);
+            full.walk(23 * end, 5 * end);
+        }
+        Texts.put(full, Busy.FULL);
+        doc.due("land() of a full LAND", full.land(), 85);
+        for (int end = 0; end < 2; end++) {
+            doc.due("noted", full.noted(23 * end, 9 * end, 4 * end), 0);
+            doc.due("heard", full.heard(9 * end), NONE);
+            doc.due("who walked", full.village(23 * end, 2), NONE);
+        }
         doc.due("IMAGE 0", x.back(0), 0);
         doc.due("who walked 1 in IMAGE 0", x.village(1, 2), 4);
 
@@ -250,6 +272,13 @@ final class LandBounds {
         good(law + "1 more 2 plus 3 minus 4 times 5 times 6 plus 7;", 4);
         good(law + "1" + " plus 2".repeat(130) + " less 3;", 4);
         good(law + "1 same 2" + " times 3".repeat(130) + ";", 4);
+        SaysBath x = Texts.withLand(VILLAGE + ITEM + "law 0 0 to 1 if1" + "plus1".repeat(223) + "same224;");
+        doc.due("a SUM over all of the TAPE", x.turned(0, 0, 0), 0);
+        for (int time = 0; time < 3; time++) {
+            Texts.put(x, VILLAGE + ITEM + "law 0 0 to 1 if 1" + "plus1".repeat(120) + "same 121;");
+            doc.due("land() in place of another with a long SUM", x.land(), 3);
+            doc.due("its LAW", x.turned(0, 0, 0), 0);
+        }
         for (String join : new String[] {"plus", "minus", "times"}) {
             bad(1, law, join + " 1 more 2;");
             bad(1, law + "1 " + join + " ", "more 2;");
@@ -304,6 +333,7 @@ final class LandBounds {
                     + "law 0 0 to 1 if 1 more 0;");
             doc.due("LAWS", x.count(4), n);
             doc.due("the last", x.turned(0, 0, 0), n - 1);
+            doc.due("none for the other variant", x.turned(0, 0, 1), NONE);
         }
         bad(3, ITEM + "law 0 0 to 1 if 1 more 0;".repeat(20), "law 0 0 to 1 if 1 more 0;");
 

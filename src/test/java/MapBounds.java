@@ -126,6 +126,9 @@ final class MapBounds {
                 + "law 0 1 to 0 if near 1 same 0;" + "road 0 1;".repeat(20) + "road 1 0;".repeat(20));
         doc.due("forty ROADS", x.turned(0, 0, 0), 0);
         doc.due("none to such", x.turned(1, 0, 0), 1);
+        x = Texts.withLand(VILLAGE + VILLAGE + ITEM + "road 1 0;law 0 0 to 1 if year times near 0 same 5;");
+        doc.due("each YEAR anew, of the first", x.turned(0, 0, 5), 0);
+        doc.due("each YEAR anew, of the second", x.turned(1, 0, 5), 0);
         x = Texts.withLand(ONE + "law 0 0 to 1 if near 0 same 0;");
         doc.due("a VILLAGE without ROADS", x.turned(0, 0, 0), 0);
 
@@ -483,11 +486,15 @@ final class MapBounds {
         SaysBath x = Texts.withLand(two + ITEM + ITEM + "says 0 0 1;says 0 1 1;law 0 0 to 1 if year same 59;");
         doc.due("YEAR 59", x.tells(59), 1);
         doc.due("YEAR 60", x.tells(60), 2);
+        doc.due("YEAR 59 once more", x.tells(59), 1);
 
         doc.sentence(17, "NONE: not by all.");
         doc.due("no ITEMS", Texts.withLand(two).tells(0), NONE);
         doc.due("two of three are alike", Texts.withLand(three + ITEM + "says 0 0 1;").tells(0), NONE);
         doc.due("23 of 24 are alike", full().tells(60), NONE);
+        x = Texts.withLand(two + ITEM + "says 0 0 1;law 0 0 to 1 if year same 59;");
+        doc.due("in YEAR 60 they are alike", x.tells(60), NONE);
+        doc.due("in YEAR 59 they are not", x.tells(59), 1);
 
         doc.sentence(17, "-2: there is no such YEAR.");
         doc.outside("tells", -2, new int[] {0}, new int[] {60}, (b, a) -> b.tells(a[0]));
@@ -498,10 +505,11 @@ final class MapBounds {
         doc.sentence(18, "ITEMS by which VILLAGE v is told from each other one, likewise.");
         doc.due("one VILLAGE", Texts.withLand(ONE).alone(0, 0), 0);
         doc.due("no ITEMS", Texts.withLand(VILLAGE + VILLAGE).alone(1, 0), NONE);
-        doc.due("alone(23, 0)", full().alone(23, 0), 1);
-        doc.due("alone(23, 60)", full().alone(23, 60), 1);
-        doc.due("alone(22, 60)", full().alone(22, 60), NONE);
-        SaysBath x = Texts.withLand(VILLAGE.repeat(4) + ITEM.repeat(3) + "says 0 0 1;says 0 1 1;says 1 1 1;says 3 2 1;");
+        SaysBath x = full();
+        doc.due("alone(23, 0)", x.alone(23, 0), 1);
+        doc.due("alone(22, 60)", x.alone(22, 60), NONE);
+        doc.due("alone(23, 60)", x.alone(23, 60), 1);
+        x = Texts.withLand(VILLAGE.repeat(4) + ITEM.repeat(3) + "says 0 0 1;says 0 1 1;says 1 1 1;says 3 2 1;");
         int[] due = {1, 3, 6, 4};
         for (int v = 0; v < 4; v++) {
             doc.due("alone(" + v + ", 0)", x.alone(v, 0), due[v]);

@@ -328,6 +328,32 @@ final class NoteBounds {
         doc.due("no VILLAGES", Texts.withLand(Busy.WAITING).likely(), NONE);
     }
 
+    /** VILLAGE v has v % 10 answers as variant 0, some as 1; each is held against each by their products across. */
+    private void compareOdds(int first, int step) {
+        SaysBath x = Texts.withLand(VILLAGE.repeat(24) + ITEM);
+        x.hear(0, 0, false);
+        int[] upper = new int[24];
+        int[] lower = new int[24];
+        for (int v = 0; v < 24; v++) {
+            int said = v % 10;
+            int other = (first + step * v) % 10;
+            x.note(v, 0, 0, said);
+            x.note(v, 0, 1, other);
+            upper[v] = said + 1;
+            lower[v] = said + other + 2;
+        }
+        int best = 0;
+        for (int v = 0; v < 24; v++) {
+            int greater = 0;
+            for (int w = 0; w < 24; w++) {
+                greater += upper[w] * lower[v] > upper[v] * lower[w] ? 1 : 0;
+            }
+            doc.due("ahead(" + v + ") from " + first + " by " + step, x.ahead(v), greater);
+            best = upper[v] * lower[best] > upper[best] * lower[v] ? v : best;
+        }
+        doc.due("likely() from " + first + " by " + step, x.likely(), best);
+    }
+
     private void ahead() {
         doc.sentence(35, "How many VILLAGES have greater ODDS than v.");
         SaysBath x = full();
@@ -343,6 +369,10 @@ final class NoteBounds {
         int[] due = {2, 1, 0};
         for (int v = 0; v < 3; v++) {
             doc.due("ahead(" + v + ")", Busy.make().ahead(v), due[v]);
+        }
+        for (int first = 0; first < 10; first++) {
+            compareOdds(first, 7);
+            compareOdds(first, 3);
         }
         // The products across are beyond eight bytes: 10 by 50 to the eighth against 9 by 49.
         x = Texts.withLand(VILLAGE + VILLAGE + "item of 5 standard 0;".repeat(8));
@@ -420,6 +450,8 @@ final class NoteBounds {
         x.note(22, 9, 4, 1);
         x.note(23, 9, 0, 1);
         doc.due("the last ITEM's last variant", x.lean(5, 9), 4);
+        doc.due("once more", x.lean(5, 9), 4);
+        doc.due("the other ASKER", x.lean(0, 9), 0);
 
         doc.sentence(38, "NONE: a does not LEAN there.");
         doc.due("the same", chain(new int[] {0, 1}, new int[] {2, 2}).lean(0, 1), NONE);

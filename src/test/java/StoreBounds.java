@@ -119,7 +119,7 @@ final class StoreBounds {
     /** Another LAND, other things HEARD, NOTED and walked; TAPE and FAULT as the busy object has them. */
     private static void changeAll(SaysBath bath) {
         bath.end(0);
-        Texts.put(bath, VILLAGE + VILLAGE + "road 0 1;item of 5 standard 0;says 0 0 4;law 0 0 to 3 if near 4 more 0;");
+        Texts.put(bath, VILLAGE + VILLAGE + "road 1 0;item of 5 standard 0;says 0 0 4;law 0 3 to 1 if 1 times 2 less 9;");
         bath.land();
         bath.hear(0, 4, false);
         bath.note(1, 0, 4, 5);
@@ -164,6 +164,47 @@ final class StoreBounds {
         doc.due("keep(3) of a new object", new SaysBath().keep(3), -2);
     }
 
+    private void fullImages() {
+        SaysBath x = full();
+        String before = Busy.scene(x);
+        x.keep(1);
+        Texts.put(x, "village size2;".repeat(24) + "road9 8river;".repeat(40) + "item of2standard0;".repeat(10));
+        x.land();
+        x.back(1);
+        doc.alike("behind back() to a full LAND", Busy.scene(x), before);
+        doc.due("size of 23", x.village(23, 0), 99);
+        doc.due("ROADS of 23", x.village(23, 1), 18);
+        doc.due("says(23, 8, 60)", x.says(23, 8, 60), 1);
+        doc.due("says(23, 9, 60)", x.says(23, 9, 60), 2);
+        doc.due("bundle(39, 0)", x.bundle(39, 0), 10);
+        doc.due("variant 4 of ITEM 9", x.hear(9, 4, true), 1);
+        doc.due("its standard", x.whole(0), 0xffffff);
+
+        StringBuilder laws = new StringBuilder(VILLAGE + "item of 5 standard 0;");
+        for (int law = 0; law < 20; law++) {
+            // Twice the YEAR without the LAW's number is that number in the YEAR of that number alone.
+            laws.append("law0 ").append(law % 5).append("to").append((law + 1) % 5).append("if year times2minus")
+                    .append(law).append("same0times size plus").append(law).append(';');
+        }
+        x = Texts.withLand(laws.toString());
+        x.keep(2);
+        Texts.put(x, ITEM + ITEM + "law1 1to0if3less4;".repeat(20));
+        x.land();
+        x.back(2);
+        for (int law = 0; law < 20; law++) {
+            doc.due("LAW " + law + " behind back()", x.turned(0, 0, law), law);
+        }
+        doc.due("still(0)", x.still(0), 20);
+
+        x = Texts.withLand("village size 9;village size 4;road 0 1;road 1 0;item of 2 standard 0;"
+                + "law 0 0 to 1 if mass 0 same 4;");
+        x.keep(0);
+        Texts.put(x, VILLAGE.repeat(4) + "road 0 1;road 2 3;");
+        x.land();
+        x.back(0);
+        doc.due("two ROADS to one VILLAGE count once", x.turned(0, 0, 0), 0);
+    }
+
     private void back() {
         doc.sentence(42, "These are as IMAGE k has them: 0.");
         SaysBath x = Busy.make();
@@ -191,6 +232,7 @@ final class StoreBounds {
         x.land();
         rowHas("of SLOT 0", x, 0, 1, 2, 3, 4);
         rowHas("of SLOT 1", x, 1, 5, 1);
+        fullImages();
     }
 
     private void backRefused() {

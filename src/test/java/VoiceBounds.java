@@ -95,6 +95,9 @@ final class VoiceBounds {
         doc.due("1, 2 and 3 are left", x.next(0), 3);
         x.hear(3, 0, true);
         doc.due("two of one kind, one of another", x.next(0), 1);
+        x = Texts.withLand(VILLAGE.repeat(5) + ITEM.repeat(3) + "says 0 0 1;says 1 0 1;says 0 2 1;");
+        x.hear(0, 1, false);
+        doc.due("those that don't FIT are not counted", x.next(0), 2);
 
         doc.sentence(TERMS, "NONE, if all of these say one and the same for each such ITEM.");
         doc.due("all say the same", Texts.withLand(VILLAGE.repeat(3) + ITEM + ITEM).next(0), NONE);
@@ -394,6 +397,12 @@ final class VoiceBounds {
         doc.due("one is HEARD", x.nowhere(0, 1), NONE);
         doc.due("one is HEARD", x.nowhere(0, 0), 0);
         doc.due("all go together", Busy.make().nowhere(60, 1), NONE);
+        for (int v = 0; v < 3; v++) {
+            x = Texts.withLand(VILLAGE.repeat(3) + ITEM + ITEM + "says " + v + " 0 1;says " + v + " 1 1;");
+            x.hear(0, 1, false);
+            x.hear(1, 1, false);
+            doc.due("they go together in " + v, x.nowhere(0, 0), 0);
+        }
 
         doc.sentence(28, "-2: there is no such YEAR, what.");
         doc.outside("nowhere", -2, new int[] {0, 0}, new int[] {60, 1}, (b, a) -> b.nowhere(a[0], a[1]));
