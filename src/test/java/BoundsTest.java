@@ -1,13 +1,14 @@
 import java.io.IOException;
 import java.nio.file.Path;
 
-/** Each sentence of the document's terms and promises has a test of its own at the bounds that it names. */
+/** Each sentence of the document has a test of its own at the bounds that it names. */
 public final class BoundsTest {
     private BoundsTest() {
     }
 
     public static void main(String[] args) throws IOException {
         Sentences doc = new Sentences(Path.of("../shared/DOC.md"));
+        FaceBounds.all(doc);
         LandBounds.all(doc);
         MapBounds.all(doc);
         VoiceBounds.all(doc);

@@ -10,10 +10,16 @@ import java.util.regex.Pattern;
 /** Holds answers against the document sentence by sentence, and knows which of its words no test speaks of. */
 final class Sentences {
     static final int TERMS = 0;
-    private static final int PROMISES = 45;
+    static final int PROMISES = 45;
+    static final int WHAT_IT_IS = 46;
+    static final int FACE = 47;
+    static final int NOT_PROMISED = 48;
+    private static final int SECTIONS = 49;
+    private static final String[] NAMED = {"What it is", "The public face", "Not promised"};
 
-    private final String[] texts = new String[PROMISES + 1];
-    private final boolean[][] spokenOf = new boolean[PROMISES + 1][];
+    private final String[] texts = new String[SECTIONS];
+    private final String[] signatures = new String[SECTIONS];
+    private final boolean[][] spokenOf = new boolean[SECTIONS][];
     private final String busyLook = Busy.look(Busy.make());
     private int section = 0;
     private String words = "";
@@ -23,17 +29,50 @@ final class Sentences {
     private int wrong = 0;
 
     Sentences(Path document) throws IOException {
-        Matcher parts = Pattern.compile("(?s)## (Terms|Promise (\\d+):[^\n]*)\n(.*?)(?=\n## )")
-                .matcher(Files.readString(document));
+        Matcher parts = Pattern.compile("(?s)## ([^\n]*)\n(.*?)(?=\n## |\\z)").matcher(Files.readString(document));
         while (parts.find()) {
-            int number = parts.group(2) == null ? TERMS : Integer.parseInt(parts.group(2));
-            String text = parts.group(3).replaceAll("```\\w*", " ").replaceAll("\\s+", " ").trim();
-            if (number != TERMS) {
-                text = text.replaceFirst("^`[^`]*`: ", "");
+            int number = sectionOf(parts.group(1));
+            String text = parts.group(2).replaceAll("```\\w*", " ").replaceAll("\\s+", " ").trim();
+            Matcher signature = Pattern.compile("^`([^`]*)`: ").matcher(text);
+            if (signature.find()) {
+                signatures[number] = signature.group(1);
+                text = text.substring(signature.end());
             }
             texts[number] = text;
             spokenOf[number] = new boolean[text.length()];
         }
+    }
+
+    private static int sectionOf(String heading) {
+        Matcher promise = Pattern.compile("Promise (\\d+): \\w+[\\w ]*").matcher(heading);
+        if (promise.matches()) {
+            return Integer.parseInt(promise.group(1));
+        }
+        for (int i = 0; i < NAMED.length; i++) {
+            if (heading.equals(NAMED[i])) {
+                return WHAT_IT_IS + i;
+            }
+        }
+        if (heading.equals("Terms")) {
+            return TERMS;
+        }
+        throw new IllegalStateException("a part of the document that no test knows: " + heading);
+    }
+
+    private static String nameOf(int section) {
+        if (section == TERMS) {
+            return "terms";
+        }
+        return section <= PROMISES ? "promise " + section : NAMED[section - WHAT_IT_IS];
+    }
+
+    String textOf(int itsSection) {
+        return texts[itsSection];
+    }
+
+    /** How a promise writes the method that it is of. */
+    String signatureOf(int promise) {
+        return signatures[promise];
     }
 
     /** Begins the test of a sentence, or of a part of one, that stands in the document with these very words. */
@@ -61,7 +100,7 @@ final class Sentences {
 
     private void complain(String what) {
         wrong++;
-        System.out.println((section == TERMS ? "terms" : "promise " + section) + ", \"" + words + "\": " + what);
+        System.out.println(nameOf(section) + ", \"" + words + "\": " + what);
     }
 
     void due(String call, long got, long want) {
@@ -121,10 +160,10 @@ final class Sentences {
         }
     }
 
-    /** Whether all answers were as due and no word of the terms and promises was left out. */
+    /** Whether all answers were as due and no word of the document was left out. */
     boolean finish() {
         closeSentence();
-        for (section = 0; section <= PROMISES; section++) {
+        for (section = 0; section < SECTIONS; section++) {
             words = "";
             if (texts[section] == null) {
                 complain("no such part of the document");
